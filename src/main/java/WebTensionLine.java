@@ -89,9 +89,6 @@ public final class WebTensionLine {
         if (line.time != 0) {
             return NOT_NOW;
         }
-        if (line.spanCount >= MOST_SPANS) {
-            return FULL;
-        }
         return line.append(length);
     }
 
@@ -178,11 +175,7 @@ public final class WebTensionLine {
         if (!isWithin(length, 1, MOST_ROLL_LENGTH)) {
             return BAD_VALUE;
         }
-        if (line.unwinder.queued >= MOST_QUEUED) {
-            return FULL;
-        }
-        line.unwinder.put(length);
-        return line.unwinder.queued;
+        return line.unwinder.put(length);
     }
 
     public int setRollLength(int length) {
@@ -410,13 +403,14 @@ public final class WebTensionLine {
         return Math.max(least, Math.min(most, number));
     }
 
-    // All divisors of the line are above 0; the test keeps the machine from ever dividing by 0.
+    // For divisors that are no constants: all of them are above 0 as long as the document binds
+    // the line, but the machine must not divide by 0 after its 512th call either.
     private static long quotient(long number, long divisor) {
         return divisor <= 0 ? 0 : Math.floorDiv(number, divisor);
     }
 
     private static long drawn(long speed, int draw) {
-        return quotient(speed * (MILLION + draw), MILLION);
+        return Math.floorDiv(speed * (MILLION + draw), MILLION);
     }
 
     // ---- the parts of a line
@@ -462,7 +456,7 @@ public final class WebTensionLine {
             breakPlace = NONE;
         }
 
-        /** Asks for room that the caller has looked for; returns the new span's number. */
+        /** Returns the number of the new span, or FULL. */
         private int append(int length) {
             if (spanCount >= MOST_SPANS) {
                 return FULL;
@@ -667,7 +661,7 @@ public final class WebTensionLine {
         }
 
         private long strengthWith(int marks) {
-            return marks == 0 ? strength : quotient((long) strength * spliceStrength, THOUSAND);
+            return marks == 0 ? strength : Math.floorDiv((long) strength * spliceStrength, THOUSAND);
         }
 
         private long steadyTensionAt(long speed, long firstSpeed) {
@@ -818,8 +812,8 @@ public final class WebTensionLine {
         }
 
         private int trim() {
-            long trim = quotient((long) kp * error(), THOUSAND)
-                    + quotient((long) ki * sum, MILLION);
+            long trim = Math.floorDiv((long) kp * error(), THOUSAND)
+                    + Math.floorDiv((long) ki * sum, MILLION);
             return (int) limit(trim, -MOST_TRIM, MOST_TRIM);
         }
     }
@@ -840,7 +834,7 @@ public final class WebTensionLine {
         }
 
         private int trimAfter(int trim, long tension) {
-            long change = quotient(gain * (wanted - tension), MILLION);
+            long change = Math.floorDiv(gain * (wanted - tension), MILLION);
             return (int) limit(trim + change, -MOST_TRIM, MOST_TRIM);
         }
     }
@@ -881,13 +875,18 @@ public final class WebTensionLine {
             remaining = other.remaining;
         }
 
-        private void put(int length) {
+        /** Returns how many rolls wait in the queue then, or FULL. */
+        private int put(int length) {
+            if (queued >= queue.length) {
+                return FULL;
+            }
             if (remaining == 0 && queued == 0) {
                 remaining = length;
-            } else if (queued < queue.length) {
-                queue[queued] = length;
-                queued++;
+                return 0;
             }
+            queue[queued] = length;
+            queued++;
+            return queued;
         }
 
         private void takeNext() {
