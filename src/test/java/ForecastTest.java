@@ -16,6 +16,8 @@ public final class ForecastTest {
         forecastWhenStopped();
         outlook();
         outlookWhenStopped();
+        forecastsComeTrue();
+        aSpliceToCome();
         nothingChanges();
         due.end();
     }
@@ -202,6 +204,43 @@ public final class ForecastTest {
         x.loadRoll(700000);
         x.run(40);
         return x;
+    }
+
+    private static void forecastsComeTrue() {
+        due.topic("promise 25, as it comes");
+        WebTensionLine x = busy();
+        long[] ahead = new long[3];
+        long[] most = new long[3];
+        for (int i = 0; i < 3; i++) {
+            ahead[i] = x.forecast(i, 100);
+        }
+        for (int tick = 0; tick < 100; tick++) {
+            x.run(1);
+            for (int i = 0; i < 3; i++) {
+                most[i] = Math.max(most[i], x.measure(i, 0));
+            }
+        }
+        for (int i = 0; i < 3; i++) {
+            due.is("forecast of span " + i, most[i], ahead[i]);
+        }
+    }
+
+    /** A mark that is in the line already breaks it when the tension has come to half the strength. */
+    private static void aSpliceToCome() {
+        due.topic("promise 26, with a mark");
+        WebTensionLine x = new WebTensionLine();
+        x.setDraw(1, 20000);
+        x.setSpeed(20000, 5000);
+        x.setSplicing(20000, 0);
+        x.loadRoll(40000);
+        x.loadRoll(1000000);
+        x.run(4);
+        due.is("value(4)", 1, x.value(4));
+        due.is("outlook(1), strong enough", 0, x.outlook(1));
+        x.setStrength(2721, 500);
+        due.is("outlook(1), 1361 is more than 1360", 11, x.outlook(1));
+        x.setStrength(2721, 501);
+        due.is("outlook(1), 1361 is not more than 1363", 0, x.outlook(1));
     }
 
     private static void nothingChanges() {

@@ -427,14 +427,19 @@ public final class TickTest {
         due.is("event(1, 0)", 31, x.event(1, 0));
         due.is("event(1, 1)", 3, x.event(1, 1));
         due.is("event(1, 2)", 0, x.event(1, 2));
-        x = new WebTensionLine();
+        due.is("value(7), 19 ticks are no slack", 0, eventsAfterSlackOf(19));
+        due.is("value(7), 20 ticks are", 2, eventsAfterSlackOf(20));
+    }
+
+    private static int eventsAfterSlackOf(int ticks) {
+        WebTensionLine x = new WebTensionLine();
         x.loadRoll(1000000);
-        x.run(19);
+        x.run(ticks);
         x.setDraw(1, 20000);
         x.setSpeed(1000, 1000);
         x.run(1);
         due.is("measure(0, 4)", 0, x.measure(0, 4));
-        due.is("value(7), 19 ticks are no slack", 0, x.value(7));
+        return x.value(7);
     }
 
     /** Its tension is 100, 298, 593, 980, 1361 in the first five ticks; 50000 have passed before the fifth. */
