@@ -11,6 +11,7 @@ public final class CallBoundsTest {
 
     public static void main(String[] args) {
         resetReturnsTheTime();
+        resetFromEveryState();
         buildingAtTimeZero();
         buildingAtTimeOne();
         buildingAfterARefusedRun();
@@ -34,6 +35,7 @@ public final class CallBoundsTest {
         threadAndTheRemainingLength();
         threadAndTheDancer();
         threadAndTheSlackCount();
+        threadWithSixSpans();
         marksInTheLine();
         breakAtOfTheLatestBreak();
         noDancer();
@@ -100,6 +102,32 @@ public final class CallBoundsTest {
         x = line(9999);
         x.run(300);
         due.is("the web ended in tick 2", 2, x.reset(100000));
+    }
+
+    private static void resetFromEveryState() {
+        due.topic("reset starts anew, all else becomes as at first: in every state");
+        WebTensionLine out = tightLine(1);
+        due.is("run(1)", OUT, out.run(1));
+        WebTensionLine threaded = broken();
+        threaded.thread();
+        WebTensionLine spliced = line(1, 2, 3);
+        spliced.setDancer(0, 1001, 700, 1, 1000, 1000);
+        spliced.run(1);
+        WebTensionLine twice = broken();
+        twice.reset(500000);
+        WebTensionLine[] lines = {new WebTensionLine(), line(7, 8), spliced, broken(), out,
+            threaded, twice};
+        String first = Readings.of(new WebTensionLine());
+        for (int i = 0; i < lines.length; i++) {
+            lines[i].reset(1000000);
+            due.holds("line " + i, first.equals(Readings.of(lines[i])));
+            due.is("web of " + i, 0, lines[i].setWeb(1000000, 0));
+            due.is("strength of " + i, 0, lines[i].setStrength(1000000, 500));
+            due.is("speed of " + i, 0, lines[i].setSpeed(0, 100));
+            due.is("splicing of " + i, 0, lines[i].setSplicing(1000, 0));
+            due.is("roll length of " + i, 1000000000, lines[i].setRollLength(1000000000));
+            due.is("controller of " + i, 0, lines[i].setLoadCell(0, 0, 0));
+        }
     }
 
     private static void buildingAtTimeZero() {
@@ -438,6 +466,28 @@ public final class CallBoundsTest {
         due.is("events after 19", 2, x.value(7));
         x.run(1);
         due.is("events after 20: slack begins again", 3, x.value(7));
+    }
+
+    private static void threadWithSixSpans() {
+        due.topic("the material of each span is its length: six spans");
+        WebTensionLine x = line(99999);
+        for (int span = 1; span < 6; span++) {
+            x.addSpan(100000 + span);
+        }
+        x.setDancer(0, 1000, 500, 1, 1000, 0);
+        x.setLoadCell(5, 1000000, 900);
+        due.is("run(20)", OUT, x.run(20));
+        due.holds("material of span 5 before", x.measure(5, 1) != 100005);
+        due.is("trim of roller 6 before", 2000, x.roller(6, 3));
+        due.is("thread()", 1, x.thread());
+        for (int span = 0; span < 6; span++) {
+            due.is("material of span " + span, span == 0 ? 101000 : 100000 + span,
+                    x.measure(span, 1));
+            due.is("length of span " + span, x.measure(span, 1), x.measure(span, 2));
+            due.is("slack count of span " + span, 0, x.measure(span, 4));
+            due.is("trim of roller " + (span + 1), 0, x.roller(span + 1, 3));
+        }
+        due.is("position", 500, x.measure(0, 6));
     }
 
     private static int runWithANewRoll(WebTensionLine x, int ticks) {

@@ -40,7 +40,7 @@ public final class ModelTest {
         return (int) ((seed >>> 33) % bound);
     }
 
-    /** A number in the range, now and then one of its ends, rarely one just outside. */
+    /** A number in the range, now and then one of its ends, rarely one just or far outside. */
     private static int from(int least, int most) {
         int way = pick(40);
         if (way < 4) {
@@ -48,6 +48,9 @@ public final class ModelTest {
         }
         if (way == 4) {
             return pick(2) == 0 ? least - 1 : most + 1;
+        }
+        if (way == 5 && pick(4) == 0) {
+            return pick(2) == 0 ? Integer.MIN_VALUE : Integer.MAX_VALUE;
         }
         return least + pick(most - least + 1);
     }
