@@ -349,9 +349,9 @@ public final class WebTensionLine {
         }
         long before = line.nominalSpeed(span, target);
         int best = -MOST_DRAW;
-        long leastGap = Long.MAX_VALUE;
-        for (int draw = -MOST_DRAW; draw <= MOST_DRAW; draw += DRAW_STEP) {
-            long gap = Math.abs(line.web.steadyTensionAt(drawn(before, draw), target) - wanted);
+        long leastGap = line.web.steadyGap(wanted, drawn(before, best), target);
+        for (int draw = -MOST_DRAW + DRAW_STEP; draw <= MOST_DRAW; draw += DRAW_STEP) {
+            long gap = line.web.steadyGap(wanted, drawn(before, draw), target);
             if (gap < leastGap) {
                 leastGap = gap;
                 best = draw;
@@ -667,6 +667,10 @@ public final class WebTensionLine {
         private long steadyTensionAt(long speed, long firstSpeed) {
             long pull = ((long) stiffness + wound) * speed - stiffness * firstSpeed;
             return Math.max(0, quotient(pull, firstSpeed));
+        }
+
+        private long steadyGap(int wanted, long speed, long firstSpeed) {
+            return Math.abs(steadyTensionAt(speed, firstSpeed) - wanted);
         }
     }
 

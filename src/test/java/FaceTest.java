@@ -24,13 +24,18 @@ public final class FaceTest {
         "int outlook(int)"};
     private static final String[] FORBIDDEN = {
         "throw", "throws", "try", "catch", "finally", "synchronized", "assert", "import", "package",
-        "->", "::", "protected", "Exact", "equals", "hashCode", "toString", "Thread", "System.out"};
+        "->", "::", "protected", "Exact", "equals", "hashCode", "toString", "Thread", "System.out",
+        "while (true)", "for (;;)", "instanceof", "float", "double", "\"", "'"};
+    private static final Set<String> LIBRARY = Set.of("Math.max", "Math.min", "Math.abs",
+            "Math.floorDiv", "Math.floorMod", "System.arraycopy", "Long.MIN_VALUE");
 
     public static void main(String[] args) throws IOException {
         constants();
         onlyTheFaceIsPublic();
         innerClasses();
+        members();
         text();
+        library();
         due.end();
     }
 
@@ -105,14 +110,56 @@ public final class FaceTest {
         }
     }
 
+    private static void members() {
+        due.topic("members");
+        for (Field field : WebTensionLine.class.getDeclaredFields()) {
+            boolean isNumber = field.getType() == int.class || field.getType() == long.class;
+            due.holds(field + " is final", Modifier.isFinal(field.getModifiers()));
+            due.holds(field + " is a number if it is static",
+                    !Modifier.isStatic(field.getModifiers()) || isNumber);
+        }
+        for (Method method : WebTensionLine.class.getDeclaredMethods()) {
+            due.holds(method + " has at most seven parameters", method.getParameterCount() <= 7);
+        }
+        for (Class<?> one : WebTensionLine.class.getDeclaredClasses()) {
+            for (Method method : one.getDeclaredMethods()) {
+                due.holds(method + " has at most seven parameters",
+                        method.getParameterCount() <= 7);
+            }
+            for (Field field : one.getDeclaredFields()) {
+                due.holds(field + " is not static", !Modifier.isStatic(field.getModifiers()));
+            }
+        }
+    }
+
+    /** The text of the program without its comments. */
+    private static String code() throws IOException {
+        String text = Files.readString(Path.of("src/main/java/WebTensionLine.java"));
+        return text.replaceAll("(?s)/\\*.*?\\*/", "").replaceAll("//[^\n]*", "");
+    }
+
+    private static void library() throws IOException {
+        due.topic("library");
+        Matcher found = Pattern.compile("\\b[A-Z]\\w*[a-z]\\w*\\.\\w+").matcher(code());
+        Set<String> used = new TreeSet<>();
+        while (found.find()) {
+            used.add(found.group());
+        }
+        due.holds("only what the rules list: " + used, LIBRARY.containsAll(used));
+        due.holds("some of it is used", used.contains("Math.floorDiv"));
+    }
+
     private static void text() throws IOException {
         due.topic("text");
-        String text = Files.readString(Path.of("src/main/java/WebTensionLine.java"));
-        String code = text.replaceAll("(?s)/\\*.*?\\*/", "").replaceAll("//[^\n]*", "");
+        String code = code();
+        due.holds("signs from 1 to 127 alone", code.chars().allMatch(sign -> sign < 128));
         for (String word : FORBIDDEN) {
             String pattern = Pattern.quote(word);
-            if (Character.isLetter(word.charAt(0))) {
-                pattern = word.equals("Exact") ? "Exact\\b" : "\\b" + pattern + "\\b";
+            if (Character.isLetter(word.charAt(word.length() - 1))) {
+                pattern = pattern + "\\b";
+            }
+            if (Character.isLetter(word.charAt(0)) && !word.equals("Exact")) {
+                pattern = "\\b" + pattern;
             }
             Matcher found = Pattern.compile(pattern).matcher(code);
             due.holds("no " + word, !found.find());
